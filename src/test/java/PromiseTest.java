@@ -483,6 +483,10 @@ public final class PromiseTest {
         good(x, 0, times(16, "go 1;"), 16);
         good(x, 1, times(6, "sign in 1 out 1;"), 6);
         good(x, 2, times(12, "clerk 1 from 1 for 1 at 1;"), 12);
+        for (int i = 1; i <= 10; i++) {
+            good(x, 0, "go " + i + times(90, "+1") + " when 1=1" + times(9, " or 1=1") + ";", 1);
+            due("each law is read from its own beginning", x.of(0, 6), 90 + i);
+        }
         good(x, 0, "go1when 1=1and 2=2or not(3=3);come\n2\n;", 2);
     }
 
@@ -494,7 +498,14 @@ public final class PromiseTest {
         bad(0, ";", 1, 0);
         bad(0, " \ngone 1;", 1, 2);
         bad(0, "Go 1;", 1, 0);
-        bad(0, "goX 1;", 1, 0);
+        for (String letter : new String[] {"A", "X", "Z", "a", "x", "z"}) {
+            bad(0, "go" + letter + " 1;", 1, 0);
+        }
+        for (String sign : new String[] {"@", "[", "`", "{", "_", ":", ".", "\u00e9"}) {
+            bad(0, "go" + sign + " 1;", 1, 2);
+        }
+        bad(0, "go when 1=1;", 1, 3);
+        bad(0, "go 1 when when=1;", 1, 10);
         bad(0, "guest 1;", 1, 0);
         bad(0, "go\t1;", 1, 2);
         bad(0, "go 1.", 1, 4);
@@ -534,8 +545,7 @@ public final class PromiseTest {
         IsHeIn x = house(1);
         good(x, 0, "go 1 when " + times(8, "(") + "1=1" + times(8, ")") + ";", 1);
         good(x, 0, "go 1 when " + times(4, "not(") + "1=1" + times(4, ")") + ";", 1);
-        good(x, 0, "go 1 when " + times(8, "not ") + "1=1 and " + times(8, "not ") + "(1=1 or 1=2);".substring(1, 4)
-            + ";", 1);
+        good(x, 0, "go 1 when " + times(8, "not ") + "1=1 and " + times(8, "not ") + "1=1;", 1);
         good(x, 0, "go 1 when (1=1) and (1=1) and (1=1) and (1=1) and (1=1) and (1=1) and (1=1) and (1=1) and (1=1);",
             1);
         good(x, 0, "go 0009/0001;", 1);
@@ -620,13 +630,14 @@ public final class PromiseTest {
         due("7*100/7", go("7*100/7"), 100);
         due("2*3+4*5-6/4", go("2*3+4*5-6/4"), 25);
         due("1-8/3", go("1-8/3"), 0);
-        due("100+1*0-7/2 towards 0", go("100+0*9-7/2"), 97);
+        due("100+0*9-7/2", go("100+0*9-7/2"), 97);
         due("held to 0", go("1-2"), 0);
         due("held to 1000", go("9999"), 1000);
         due("1000", go("1000"), 1000);
         due("age 20", go("age*3-5"), 55);
-        due("guest 2", go("age/guest".replace("guest", "8") + "*2"), 4);
-        due("wraps", go("9999*9999*9999*9999*9999/9999"), 1000);
+        due("age 20 by 8", go("age/8*2"), 4);
+        // 9999*9999*30 wraps to -1295567266
+        due("/ goes towards 0", go("1295*1000+568+9999*9999*30/1000"), 1);
         int wrapped = 9999 * 9999 * 9999;
         due("wraps", go("9999*9999*9999/1000/1000"), Math.max(0, Math.min(1000, wrapped / 1000 / 1000)));
         IsHeIn x = house(1);
@@ -1446,6 +1457,19 @@ public final class PromiseTest {
             due("worth", x.done(0), 4);
             due("hooks", x.hook(1), 1);
         }
+        x.guest(3, 3);
+        tell(x, 0, "go 1000 when guest=2;go 0;come 0;carry 0;");
+        x.hours(2);
+        x.looks(2, 0, 1);
+        due("a third is out", x.of(2, 3), 2);
+        yes("back", x.image(false));
+        due("another third", x.guest(2, 2), 2);
+        int[] other = {2, 2, 0, NONE, 0, 900000};
+        for (int what = 0; what < 6; what++) {
+            due("another third: of(2, " + what + ")", x.of(2, what), other[what]);
+        }
+        due("another third: not looked", x.sign(0, 4), NONE);
+        yes("back", x.image(false));
         x.hours(1);
         yes("taken anew", x.image(true));
         x.hours(2);

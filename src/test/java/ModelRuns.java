@@ -59,6 +59,9 @@ public final class ModelRuns {
                         text(k, Texts.good(r, k), 0);
                     }
                 }
+                if (r.nextInt(12) == 0) {
+                    growOld();
+                }
                 while (told.size() < CALLS - 40 && good) {
                     step();
                 }
@@ -67,6 +70,15 @@ public final class ModelRuns {
                 System.out.println("run " + seed + ": " + e + " at " + told.get(told.size() - 1));
             }
             return good;
+        }
+
+        /** Goes on to the last hours that there are. */
+        private void growOld() {
+            int left = 9999 - r.nextInt(60);
+            for (int n = Math.min(left, 60); n > 0; n = Math.min(left, 60)) {
+                due("hours(" + n + ")", real.hours(n), model.hours(n));
+                left -= n;
+            }
         }
 
         private void due(String call, long got, long want) {

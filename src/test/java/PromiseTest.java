@@ -1,10 +1,5 @@
 /** Each promise of the document by itself: ordinary inputs, the edges that it names, and wrong inputs. */
-public final class PromiseTest {
-    private static final int NONE = -1;
-    private static final int NO_SUCH = -2;
-    private static int wrong = 0;
-    private static int checks = 0;
-
+public final class PromiseTest extends Checks {
     public static void main(String[] args) {
         one();
         two();
@@ -57,82 +52,7 @@ public final class PromiseTest {
         fortyFive();
         fortySix();
         fortySeven();
-        System.out.println(checks + " checks, " + wrong + " wrong");
-        if (wrong != 0) {
-            System.exit(1);
-        }
-    }
-
-    // ---- helpers ----
-
-    private static void due(String what, long got, long want) {
-        checks++;
-        if (got != want) {
-            wrong++;
-            System.out.println(what + " answered " + got + ", due is " + want);
-        }
-    }
-
-    private static void yes(String what, boolean got) {
-        due(what, got ? 1 : 0, 1);
-    }
-
-    private static void no(String what, boolean got) {
-        due(what, got ? 1 : 0, 0);
-    }
-
-    private static int byteAt(String text, int i) {
-        return i < text.length() ? text.charAt(i) : ' ';
-    }
-
-    private static int fourAt(String text, int i) {
-        return byteAt(text, i) << 24 | byteAt(text, i + 1) << 16 | byteAt(text, i + 2) << 8 | byteAt(text, i + 3);
-    }
-
-    private static int tell(IsHeIn x, int k, String text) {
-        for (int i = 0; i < text.length(); i += 20) {
-            x.feed(fourAt(text, i), fourAt(text, i + 4), fourAt(text, i + 8), fourAt(text, i + 12),
-                fourAt(text, i + 16));
-        }
-        x.end(text.length());
-        return x.text(k);
-    }
-
-    private static void good(IsHeIn x, int k, String text, int lines) {
-        due("text " + k + ": " + text, tell(x, k, text), lines);
-        due("fault(0) of " + text, x.fault(0), 0);
-        due("fault(1) of " + text, x.fault(1), NONE);
-    }
-
-    private static void bad(int k, String text, int fault, int place) {
-        IsHeIn x = new IsHeIn();
-        due("text " + k + ": " + text, tell(x, k, text), NONE);
-        due("fault(0) of " + text, x.fault(0), fault);
-        due("fault(1) of " + text, x.fault(1), place);
-        yes("the tape is empty after " + text, !x.end(1));
-    }
-
-    /** A house with so many guests, by turns on the floors 0 to 3, of age 10 times their number. */
-    private static IsHeIn house(int guests) {
-        IsHeIn x = new IsHeIn();
-        for (int g = 0; g < guests; g++) {
-            x.guest(g % 4, 10 * g % 100);
-        }
-        return x;
-    }
-
-    private static IsHeIn house(int guests, String law) {
-        IsHeIn x = house(guests);
-        tell(x, 0, law);
-        return x;
-    }
-
-    private static String times(int n, String text) {
-        StringBuilder all = new StringBuilder();
-        for (int i = 0; i < n; i++) {
-            all.append(text);
-        }
-        return all.toString();
+        finish();
     }
 
     // ---- what is told ----
@@ -1041,18 +961,6 @@ public final class PromiseTest {
         due("0", x.pair(2), 0);
         tell(x, 0, "prior 600 when guest=0;prior 500;");
         due("0, then the first b", x.pair(1), 1);
-    }
-
-    /** Keys hung by hand: of guest g on hooks[g]. */
-    private static IsHeIn hung(int... hooks) {
-        IsHeIn x = house(hooks.length, "go 1000;come 0;carry 1000;");
-        x.hours(1);
-        for (int g = 0; g < hooks.length; g++) {
-            if (hooks[g] != NONE) {
-                yes("hang", x.hang(g, hooks[g]));
-            }
-        }
-        return x;
     }
 
     private static void thirtyOneAndNine() {

@@ -602,6 +602,14 @@ public final class ThoughtEdges extends Checks {
         tell(x, 0, "prior 1000;");
         due("surely in", x.said(0), 255);
         due("and costs nothing", x.said(1), 0);
+        IsHeIn y = withSigns(1, "prior 957;", "sign in 800 out 100;");
+        yes("looks", y.looks(0, 0, 1));
+        due("SURE", y.of(0, 5), 994414);
+        y.caller(0, 179, 999);
+        due("in is said", y.said(0), 1);
+        due("999894 by a million", y.said(1), 0);
+        y.caller(0, 180, 999);
+        due("and 1005480 by a million", y.said(1), 1);
     }
 
     // ---- LOOKS, PAIR, BUSY ----

@@ -5,6 +5,8 @@
 public final class HourEdges extends Checks {
     public static void main(String[] args) {
         newObject();
+        eachForItself();
+        lastCall();
         states();
         drawsAreUnsigned();
         belowGo();
@@ -59,6 +61,46 @@ public final class HourEdges extends Checks {
         due("hours(60)", x.hours(60), 0);
         due("no draw without guests", x.look(7), 0);
         due("hour", x.look(1), 60);
+    }
+
+    /** By turns: neither house knows of the other, though all is done with numbers of the same size. */
+    private static void eachForItself() {
+        about("1: Nobody: each object is a house for itself");
+        IsHeIn a = house(2, "go 1000;come 0;carry 0;prior 700;");
+        IsHeIn b = house(3, "go 0;prior 200;");
+        tell(a, 1, "sign in 900 out 100;");
+        a.room(1, 5, 50, 9);
+        a.caller(0, 3, 4);
+        a.set(0, 0, 7);
+        a.image(true);
+        due("hours of the first", a.hours(2), 2);
+        yes("a look in the first", a.looks(0, 0, 1));
+        due("hours of the second", b.hours(5), 0);
+        int[] first = {2, 2, 3, 3, 7, 0, 2, a.look(7), 4, 1, 0, 1, 3, 1};
+        int[] second = {3, 5, 0, 0, 0, 0, 0, b.look(7), 2, 0, 0, 0, 5, 0};
+        for (int what = 0; what <= 13; what++) {
+            due("the first: look(" + what + ")", a.look(what), first[what]);
+            due("the second: look(" + what + ")", b.look(what), second[what]);
+        }
+        due("the law of the first", a.of(1, 11), 700);
+        due("the law of the second", b.of(1, 11), 200);
+        no("no image of the second", b.image(false));
+        due("the tape of the first", a.feed(0, 0, 0, 0, 0), 20);
+        no("and not of the second", b.end(1));
+        due("its fault", a.text(0), NONE);
+        due("and not of the second", b.fault(0), 0);
+    }
+
+    private static void lastCall() {
+        about("An object is used for at most 512 calls");
+        IsHeIn x = new IsHeIn();
+        x.state(99);
+        due("guest", x.guest(1, 1), 0);
+        for (int call = 3; call <= 510; call++) {
+            due("call " + call, x.look(7), 99);
+        }
+        due("call 511", x.hours(1), drawOf(stateAfter(99)) < 100 ? 1 : 0);
+        yes("call 512", x.undo());
     }
 
     private static void states() {

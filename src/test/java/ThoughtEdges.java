@@ -559,6 +559,9 @@ public final class ThoughtEdges extends Checks {
         due("the first again", x.caller(11, 999, 999), 1);
         due("none is then", x.caller(NONE, 999, 999), 0);
         due("look(13)", x.look(13), 0);
+        due("one again", x.caller(3, 7, 7), 1);
+        due("none is then, whatever the costs", x.caller(NONE, -1, MIN), 0);
+        due("look(13)", x.look(13), 0);
     }
 
     private static void said() {
